@@ -303,5 +303,11 @@ public final class PacksRunsTest {
         }
         Check.due("all of exact(0, .., 0) together, all guesses alike", sum, 623360743125120L);
         Check.due("exact(0, 5, 0), all guesses alike", whole.exact(0, 5, 0), 623360743125120L);
+        Check.guesses(whole, 0, 0, 1, 2, 3, 4, 0, 1, 2, 3, 4, 0, 1, 2, 3, 4, 0, 1, 2, 3, 4, 0, 1, 2, 3, 4);
+        // with each sign guessed five times one order alone has all 25, and none has all but one
+        Check.due("exact(0, 25, 0)", whole.exact(0, 25, 0), 1);
+        Check.due("exact(0, 24, 0)", whole.exact(0, 24, 0), 0);
+        // two unlike places change their cards: 10 pairs of signs, 5 places of each
+        Check.due("exact(0, 23, 0)", whole.exact(0, 23, 0), 250);
     }
 }

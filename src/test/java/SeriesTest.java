@@ -126,6 +126,15 @@ public final class SeriesTest {
         for (int bad : new int[] {-1, 101, LEAST, MOST}) {
             Check.due("best(" + bad + ")", x.best(bad), -2);
         }
+        FiveCards more = Check.with(53000, 1);
+        more.run(0, 1, 0);
+        more.run(0, 1, 1);
+        Check.guesses(more, 1, 4, 0, 0, 0, 0, 4, 4, 4);
+        Check.guesses(more, 2, 4, 0, 0, 0, 0, 4, 4, 4);
+        Check.due("best(2), 5/1 and 8/2", more.best(2), 0);
+        Check.guesses(more, 0, 4, 4);
+        Check.due("best(2), 3/1 and 8/2", more.best(2), 1);
+        Check.due("best(1), 3/1 and 4/1", more.best(1), 1);
         FiveCards none = Check.with(11, 1);
         Check.due("best(1), a mean of 0", none.best(1), 0);
         Check.due("best(0), no days ahead", none.best(0), -1);

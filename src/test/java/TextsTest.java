@@ -94,6 +94,10 @@ public final class TextsTest {
         faultAt(5, "stop hit;keep 0;say 0;");
         faultAt(5, "stop hitsa;keep 0;say 0;");
         faultAt(5, "stop hitsrun;keep 0;say 0;");
+        faultAt(5, "stop hitsz;keep 0;say 0;");
+        faultAt(9, "stop hits{;keep 0;say 0;");
+        faultAt(9, "stop hits`;keep 0;say 0;");
+        faultAt(6, "stop 1:;keep 0;say 0;");
         faultAt(9, "stop hits0;keep 0;say 0;");
         faultAt(5, "stop 12345;keep 0;say 0;");
         faultAt(5, "stop 00000;keep 0;say 0;");
