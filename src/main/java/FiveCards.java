@@ -378,7 +378,8 @@ public final class FiveCards {
         for (int k = 0; k < imageLeaks && k < leaks.size(); k++) {
             leaks.get(k).isShut = leaks.get(k).wasShut;
         }
-        return imageRuns;
+        // RUNS that came since stay, so they are counted too
+        return runs.size();
     }
 
     public int count(int what) {

@@ -15,6 +15,7 @@ public final class SeriesTest {
         imageAndBack();
         imageKeepsNoMore();
         imageAgain();
+        backCountsAllRuns();
         count();
         Check.end();
     }
@@ -273,7 +274,7 @@ public final class SeriesTest {
         Check.read(x, "stop 0;keep 0;say 1;");
         x.force(1);
         Check.feed(x, "sto");
-        Check.due("back(), what came since stays", x.back(), 0);
+        Check.due("back(), what came since stays", x.back(), 1);
         Check.due("count(0)", x.count(0), 1);
         Check.due("count(1)", x.count(1), 1);
         Check.due("count(2)", x.count(2), 1);
@@ -299,10 +300,27 @@ public final class SeriesTest {
         x.cut(0, 1);
         x.cut(1, 1);
         x.cut(2, 1);
-        Check.due("back()", x.back(), 2);
+        Check.due("back()", x.back(), 3);
         Check.rowIs(x, 0, 0, "120");
         Check.rowIs(x, 1, 0, "201");
         Check.rowIs(x, 2, 0, "120");
+    }
+
+    private static void backCountsAllRuns() {
+        FiveCards x = Check.with(11100, 2);
+        x.image();
+        Check.due("back(), none came since", x.back(), 2);
+        x.run(0, 3, 7);
+        x.run(0, 4, 8);
+        Check.due("back(), two came since", x.back(), 4);
+        Check.due("count(1)", x.count(1), 4);
+        x.run(9, 0, 0);
+        Check.due("back(), one was refused", x.back(), 4);
+        for (int k = 4; k < 17; k++) {
+            x.run(0, 0, 0);
+        }
+        Check.due("back(), no more have room", x.back(), 16);
+        Check.due("image()", x.image(), 16);
     }
 
     private static void count() {
