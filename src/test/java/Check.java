@@ -1,5 +1,10 @@
+import java.util.function.IntToLongFunction;
+
 /** What all tests use: answers that are due, and the calls that lead up to them. */
 final class Check {
+    private static final int LEAST = Integer.MIN_VALUE;
+    private static final int MOST = Integer.MAX_VALUE;
+
     private static int wrong = 0;
 
     private Check() {
@@ -17,6 +22,15 @@ final class Check {
             wrong++;
             System.out.println("does not hold: " + what);
         }
+    }
+
+    /** The least and the most are taken; what lies next to them outside, and far outside, is refused. */
+    static void range(String call, IntToLongFunction asked, int least, int most, long refusal) {
+        for (int bad : new int[] {least - 1, most + 1, LEAST, LEAST + 1, MOST - 1, MOST}) {
+            due(call + " with " + bad, asked.applyAsLong(bad), refusal);
+        }
+        holds(call + " with " + least + " is taken", asked.applyAsLong(least) != refusal);
+        holds(call + " with " + most + " is taken", asked.applyAsLong(most) != refusal);
     }
 
     static void end() {
@@ -45,19 +59,34 @@ final class Check {
         due("guess(" + run + ", 3, 0)", x.guess(run, 3, 0), signs.length);
     }
 
+    /** The CARDS (what 0) or GUESSES (what 1) of a RUN. */
+    static int[] row(FiveCards x, int run, int what) {
+        int[] row = new int[x.told(run, 3)];
+        for (int i = 0; i < row.length; i++) {
+            row[i] = x.at(run, i, what);
+        }
+        return row;
+    }
+
     /** The CARDS (what 0) or GUESSES (what 1) of a RUN as digits. */
     static void rowIs(FiveCards x, int run, int what, String digits) {
         StringBuilder row = new StringBuilder();
-        for (int i = 0; i < x.told(run, 3); i++) {
-            row.append(x.at(run, i, what));
+        for (int sign : row(x, run, what)) {
+            row.append(sign);
         }
         holds("row " + what + " of run " + run + " is " + digits + " but " + row, row.toString().equals(digits));
     }
 
+    /** Eight bytes a call, so that an object is not used up by its texts. */
     static int feed(FiveCards x, String bytes) {
         int size = x.count(5);
-        for (int i = 0; i < bytes.length(); i++) {
-            size = x.feed(1, bytes.charAt(i));
+        for (int from = 0; from < bytes.length(); from += 8) {
+            int n = Math.min(8, bytes.length() - from);
+            long word = 0;
+            for (int k = n - 1; k >= 0; k--) {
+                word = word << 8 | bytes.charAt(from + k);
+            }
+            size = x.feed(n, word);
         }
         return size;
     }

@@ -71,69 +71,98 @@ public final class OracleTest {
     private static void byLeft() {
         FiveCards x = Check.with(RANDOM.nextInt(5) * 11111 + 1 + RANDOM.nextInt(5), 1);
         x.shuffle(0, RANDOM.nextInt(100000));
+        int[] cards = Check.row(x, 0, 0);
         int hits = 0;
-        for (int i = 0; i < x.told(0, 3); i++) {
+        for (int i = 0; i < cards.length; i++) {
             int best = 0;
             int most = -1;
             for (int sign = 0; sign < 5; sign++) {
                 int left = 0;
-                for (int k = i; k < x.told(0, 3); k++) {
-                    left += x.at(0, k, 0) == sign ? 1 : 0;
+                for (int k = i; k < cards.length; k++) {
+                    left += cards[k] == sign ? 1 : 0;
                 }
                 if (left > most) {
                     most = left;
                     best = sign;
                 }
             }
-            hits += x.at(0, i, 0) == best ? 1 : 0;
+            hits += cards[i] == best ? 1 : 0;
         }
         Check.due("told(0, 6)", x.told(0, 6), hits);
     }
 
     // ---- SERIES: EXPECTED over 25! / 25 of all that may stand below the line
 
+    private static final long LINE = 26771144400L;
+
     private static void series() {
-        long line = 26771144400L;
         FiveCards x = new FiveCards();
-        int[] packs = {1 + RANDOM.nextInt(9), 10101 + RANDOM.nextInt(3), 55555, 21304};
+        int[] packs = {1 + RANDOM.nextInt(9), 10101 + RANDOM.nextInt(3), 20101, 1304};
         for (int pack : packs) {
             x.pack(pack);
         }
+        int[][] cards = new int[16][];
+        int[][] guesses = new int[16][];
+        int[] guessers = new int[16];
         for (int k = 0; k < 16; k++) {
-            x.run(RANDOM.nextInt(4), RANDOM.nextInt(2), RANDOM.nextInt(100));
-            for (int i = 0; i < x.told(k, 3); i++) {
-                x.slip(k, i, RANDOM.nextInt(5));
+            guessers[k] = RANDOM.nextInt(2);
+            x.run(RANDOM.nextInt(4), guessers[k], RANDOM.nextInt(100));
+            cards[k] = Check.row(x, k, 0);
+            guesses[k] = new int[cards[k].length];
+            for (int i = 0; i < guesses[k].length; i++) {
+                guesses[k][i] = RANDOM.nextInt(5);
+                x.slip(k, i, guesses[k][i]);
             }
         }
-        x.force(Check.read(x, "stop 5<hits;keep next<hits;say 0;"));
+        x.force(Check.read(x, "stop 2<hits;keep next<hits;say 0;"));
         for (int kept = 0; kept < 2; kept++) {
             long many = 0;
             long hits = 0;
             long above = 0;
             boolean stopped = false;
             for (int k = 0; k < 16 && !stopped; k++) {
-                if (x.told(k, 1) != 1 || kept == 1 && x.told(k, 4) <= x.told(k, 5)) {
+                int own = alike(cards[k], guesses[k], 0);
+                if (guessers[k] != 1 || kept == 1 && own <= alike(cards[k], guesses[k], 1)) {
                     continue;
                 }
                 many++;
-                hits += x.told(k, 4);
-                for (int i = 0; i < x.told(k, 3); i++) {
-                    for (int j = 0; j < x.told(k, 3); j++) {
-                        above += x.at(k, i, 0) == x.at(k, j, 1) ? line / x.told(k, 3) : 0;
-                    }
-                }
-                stopped = kept == 0 && x.told(k, 4) > 5;
+                hits += own;
+                above += expectedAbove(cards[k], guesses[k]);
+                stopped = kept == 0 && own > 2;
             }
-            long gain = hits * line - above;
-            long divisor = divisor(above, line);
-            Check.due("series(1, " + kept + ", 0)", x.series(1, kept, 0), many);
-            Check.due("series(1, " + kept + ", 1)", x.series(1, kept, 1), hits);
-            Check.due("series(1, " + kept + ", 2)", x.series(1, kept, 2), above / divisor);
-            Check.due("series(1, " + kept + ", 3)", x.series(1, kept, 3), line / divisor);
-            divisor = divisor(Math.abs(gain), line);
-            Check.due("series(1, " + kept + ", 4)", x.series(1, kept, 4), gain / divisor);
-            Check.due("series(1, " + kept + ", 5)", x.series(1, kept, 5), line / divisor);
+            seriesIs(x, kept, many, hits, above);
         }
+    }
+
+    private static void seriesIs(FiveCards x, int kept, long many, long hits, long above) {
+        long gain = hits * LINE - above;
+        long divisor = divisor(above, LINE);
+        Check.due("series(1, " + kept + ", 0)", x.series(1, kept, 0), many);
+        Check.due("series(1, " + kept + ", 1)", x.series(1, kept, 1), hits);
+        Check.due("series(1, " + kept + ", 2)", x.series(1, kept, 2), above / divisor);
+        Check.due("series(1, " + kept + ", 3)", x.series(1, kept, 3), LINE / divisor);
+        divisor = divisor(Math.abs(gain), LINE);
+        Check.due("series(1, " + kept + ", 4)", x.series(1, kept, 4), gain / divisor);
+        Check.due("series(1, " + kept + ", 5)", x.series(1, kept, 5), LINE / divisor);
+    }
+
+    /** HITS, or NEXT by 1. */
+    private static int alike(int[] cards, int[] guesses, int by) {
+        int sum = 0;
+        for (int i = 0; i + by < cards.length; i++) {
+            sum += guesses[i] == cards[i + by] ? 1 : 0;
+        }
+        return sum;
+    }
+
+    private static long expectedAbove(int[] cards, int[] guesses) {
+        long above = 0;
+        for (int card : cards) {
+            for (int guess : guesses) {
+                above += card == guess ? LINE / cards.length : 0;
+            }
+        }
+        return above;
     }
 
     private static long divisor(long a, long b) {

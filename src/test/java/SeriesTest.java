@@ -201,28 +201,30 @@ public final class SeriesTest {
     }
 
     private static int mixedByHand(FiveCards x, int first, int n) {
-        int size = x.told(0, 3);
+        int[] lie = Check.row(x, 0, 0);
+        int[] guesses = Check.row(x, 0, 1);
         int sum = 0;
         for (int seed = first; seed < first + n; seed++) {
-            int[] cards = new int[size];
-            for (int i = 0; i < size; i++) {
-                cards[i] = x.at(0, i, 0);
-            }
+            int[] cards = lie.clone();
             long lot = seed + 1;
-            for (int place = size - 1; place >= 1; place--) {
+            for (int place = cards.length - 1; place >= 1; place--) {
                 lot = lot * 48271 % 2147483647;
                 int other = (int) (lot % (place + 1));
                 int card = cards[place];
                 cards[place] = cards[other];
                 cards[other] = card;
             }
-            int hits = 0;
-            for (int i = 0; i < size; i++) {
-                hits += cards[i] == x.at(0, i, 1) ? 1 : 0;
-            }
-            sum += hits >= x.told(0, 4) ? 1 : 0;
+            sum += alike(cards, guesses) >= alike(lie, guesses) ? 1 : 0;
         }
         return sum;
+    }
+
+    private static int alike(int[] cards, int[] guesses) {
+        int hits = 0;
+        for (int i = 0; i < cards.length; i++) {
+            hits += cards[i] == guesses[i] ? 1 : 0;
+        }
+        return hits;
     }
 
     private static void imageAndBack() {
