@@ -1,7 +1,8 @@
-/** Promises 1 to 10 at their edges: each sentence that names one has a test; the sentence stands ahead of it. */
+/** Promises 1 to 8 at their edges: each sentence that names one has a test; the sentence stands ahead of it. */
 public final class EdgesPacksRunsTest {
     public static void main(String[] args) {
         noPacksAtFirst();
+        fiveHundredAndTwelveCalls();
         packDigits();
         packTogether();
         packCountsHaveFiveDigits();
@@ -36,6 +37,18 @@ public final class EdgesPacksRunsTest {
         Check.due("count(0)", x.count(0), 0);
         Check.due("run(0, 0, 0), there is no pack", x.run(0, 0, 0), -2);
         Check.due("pack(1), numbered from 0", x.pack(1), 0);
+    }
+
+    // "An object is used for at most 512 calls": the last of them is answered like the first
+    private static void fiveHundredAndTwelveCalls() {
+        FiveCards x = new FiveCards();
+        x.pack(55555);
+        x.run(0, 0, 0);
+        for (int k = 0; k < 509; k++) {
+            int was = k < 25 ? 0 : (k / 25 - 1) % 5;
+            Check.due("slip " + k, x.slip(0, k % 25, k / 25 % 5), was);
+        }
+        Check.due("told(0, 10), the 512th call", x.told(0, 10), 509);
     }
 
     // "how many cards of each SIGN (0 .. 9 each"; "SIGN 0's the highest"

@@ -11,6 +11,7 @@ public final class EdgesRulesTest {
         openInEachPart();
         minusBetweenOpensNothing();
         tooDeepIsAheadOfWhatFollows();
+        noneIsOpenAfterAFault();
         sumsWrapAround();
         productsWrapAround();
         minusWrapsAround();
@@ -144,6 +145,16 @@ public final class EdgesRulesTest {
         faultAt(5, "(((((?");
         faultAt(5, "((((()");
         faultAt(20, "not not not not not not not");
+    }
+
+    // a TEXT begins with none open, whatever was open where the last one had its FAULT
+    private static void noneIsOpenAfterAFault() {
+        FiveCards x = new FiveCards();
+        for (int k = 1; k < 6; k++) {
+            Check.due("text(), too deep", Check.read(x, "stop ((((((1"), -110);
+            Check.due("text(), it ends while five are open", Check.read(x, "stop not not (--"), -116);
+            Check.due("text(), five open", Check.read(x, "stop (((((1)))));keep -----1;say not not not not not 1;"), k);
+        }
     }
 
     // "(32 bits, wrapping)"
