@@ -5,6 +5,7 @@ public final class EdgesSeriesTest {
         seriesOfNoRuns();
         seriesTillItStops();
         seriesThatNeverStops();
+        seriesStopsByWhatIsNotZero();
         seriesOfOneGuesser();
         keptStopOrNot();
         keptNoneAndAll();
@@ -96,6 +97,17 @@ public final class EdgesSeriesTest {
         seriesIs(x, 0, 0, 16);
         x.force(Check.read(x, "stop 13<run;keep 0;say 0;"));
         seriesIs(x, 0, 0, 15);
+    }
+
+    // "(what is not 0 is true)"
+    private static void seriesStopsByWhatIsNotZero() {
+        FiveCards x = Check.with(10000, 3);
+        String[] stops = {"2", "-1", "-9999", "1-1", "8192*8192*32"};
+        for (int k = 0; k < stops.length; k++) {
+            x.force(Check.read(x, "stop " + stops[k] + ";keep " + stops[k] + ";say 0;"));
+            seriesIs(x, 0, 0, k == 3 ? 3 : 1);
+            seriesIs(x, 0, 1, k == 3 ? 0 : 3);
+        }
     }
 
     // "A SERIES of a GUESSER: its RUNS"

@@ -17,6 +17,7 @@ public final class EdgesTextsTest {
         blanksMayStand();
         blanksNeedNotStand();
         bytesThatBeginNone();
+        bytesBehindAWord();
         bytesAtFirst();
         wordsNeitherKeyNorName();
         numbersOfFourDigits();
@@ -264,6 +265,18 @@ public final class EdgesTextsTest {
             String text = "stop 0" + (char) value + ";keep 0;say 0;";
             Check.due("text(), byte " + value + " behind a number", Check.read(new FiveCards(), text),
                 blank || digit ? 1 : joins ? -107 : -106);
+        }
+    }
+
+    // "WORDS (a .. z)": what is no such letter ends a WORD, and is a TOKEN of its own or begins none
+    private static void bytesBehindAWord() {
+        for (int value = 0; value < 256; value++) {
+            boolean blank = value == 32 || value == 10;
+            boolean letter = value >= 97 && value <= 122;
+            boolean joins = ";+-*<=".indexOf(value) >= 0;
+            String text = "stop hits" + (char) value + ";keep 0;say 0;";
+            Check.due("text(), byte " + value + " behind a word", Check.read(new FiveCards(), text),
+                blank ? 1 : letter ? -105 : joins ? -110 : -109);
         }
     }
 
