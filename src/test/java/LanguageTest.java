@@ -1,14 +1,23 @@
 import java.io.IOException;
+import java.lang.reflect.Field;
+import java.lang.reflect.Method;
+import java.lang.reflect.Modifier;
 import java.nio.file.Files;
 import java.nio.file.Path;
+import java.util.ArrayList;
 import java.util.Arrays;
 import java.util.List;
+import java.util.Set;
+import java.util.TreeSet;
 import java.util.regex.Matcher;
 import java.util.regex.Pattern;
 
-/** What of ../shared/LANGUAGE.md can be seen from the program's words; its argument is the program's file. */
+/** What of ../shared/LANGUAGE.md can be seen from the program; the argument is the program's file. */
 public final class LanguageTest {
     private static final int MOST_LINES = 60;
+    private static final int MOST_CLASSES = 12;
+    private static final int MOST_FIELDS = 20;
+    private static final int MOST_PARAMETERS = 7;
     private static final String[] NOT_THERE = {
         "throw", "throws", "try", "catch", "finally", "synchronized", "assert", "package", "double", "float", "var",
         "record", "Integer", "Long", "Object", "System\\.(?!arraycopy)\\w+", "equals", "hashCode", "toString",
@@ -32,7 +41,36 @@ public final class LanguageTest {
             Check.holds("sign " + (int) source.charAt(i) + " is due", source.charAt(i) < 127);
         }
         methodsAreShort(words);
+        List<Class<?>> classes = new ArrayList<>(Arrays.asList(FiveCards.class.getDeclaredClasses()));
+        classes.add(FiveCards.class);
+        Check.holds("there are few classes", classes.size() <= MOST_CLASSES);
+        for (Class<?> one : classes) {
+            fieldsAreFew(one);
+            methodsTakeFew(one);
+        }
         Check.end();
+    }
+
+    private static void fieldsAreFew(Class<?> one) {
+        int fields = 0;
+        for (Field field : one.getDeclaredFields()) {
+            boolean isStatic = Modifier.isStatic(field.getModifiers());
+            fields += isStatic ? 0 : 1;
+            Check.holds(field + " is final", !isStatic || Modifier.isFinal(field.getModifiers()) || field.isSynthetic());
+        }
+        Check.holds(one + " has few fields", fields <= MOST_FIELDS);
+    }
+
+    private static void methodsTakeFew(Class<?> one) {
+        Set<String> faces = new TreeSet<>();
+        for (Method method : FiveCards.class.getDeclaredMethods()) {
+            faces.add(Modifier.isPublic(method.getModifiers()) ? method.getName() : "");
+        }
+        for (Method method : one.getDeclaredMethods()) {
+            Check.holds(method + " takes few parameters", method.getParameterCount() <= MOST_PARAMETERS);
+            boolean isOfTheFace = one == FiveCards.class && Modifier.isPublic(method.getModifiers());
+            Check.holds(method + " bears no name of the face", isOfTheFace || !faces.contains(method.getName()));
+        }
     }
 
     private static void methodsAreShort(String words) {

@@ -1,5 +1,9 @@
+import java.math.BigInteger;
 import java.util.ArrayList;
+import java.util.Arrays;
+import java.util.HashMap;
 import java.util.List;
+import java.util.Map;
 import java.util.Random;
 
 /** Promises 8, 9, 10, 16, 19 and 21 against slow, plain ways to come to the same; the seeds are fixed. */
@@ -12,6 +16,9 @@ public final class OracleTest {
             byLeft();
             series();
             plan();
+        }
+        for (int turn = 0; turn < 12; turn++) {
+            exactOfManyCards();
         }
         for (int turn = 0; turn < 3000; turn++) {
             faults();
@@ -64,6 +71,60 @@ public final class OracleTest {
             digits = digits * 10 + count;
         }
         return digits;
+    }
+
+    // ---- EXACT of packs of 20 cards and more: place by place, all orders with the same cards left at once
+
+    private static void exactOfManyCards() {
+        int[] counts = new int[5];
+        int cards = 20 + RANDOM.nextInt(6);
+        for (int k = 0; k < cards;) {
+            int sign = RANDOM.nextInt(5);
+            if (counts[sign] < 9) {
+                counts[sign]++;
+                k++;
+            }
+        }
+        FiveCards x = Check.with(digits(counts), 1);
+        int[] guesses = new int[cards];
+        int signs = 1 + RANDOM.nextInt(5);
+        for (int i = 0; i < cards; i++) {
+            guesses[i] = RANDOM.nextInt(signs);
+        }
+        Check.guesses(x, 0, guesses);
+        BigInteger[] orders = ordersFrom(0, guesses, counts, new HashMap<>());
+        BigInteger all = BigInteger.ZERO;
+        for (BigInteger some : orders) {
+            all = all.add(some);
+        }
+        for (int hits = 0; hits <= 25; hits++) {
+            Check.due("exact(0, " + hits + ", 0)", x.exact(0, hits, 0), orders[hits].longValueExact());
+            Check.due("exact(0, " + hits + ", 1)", x.exact(0, hits, 1), all.longValueExact());
+        }
+    }
+
+    /** By HITS from a place on, with these cards left. */
+    private static BigInteger[] ordersFrom(int place, int[] guesses, int[] left, Map<Integer, BigInteger[]> known) {
+        BigInteger[] orders = known.get(digits(left));
+        if (orders != null) {
+            return orders;
+        }
+        orders = new BigInteger[26];
+        Arrays.fill(orders, BigInteger.ZERO);
+        orders[0] = place == guesses.length ? BigInteger.ONE : BigInteger.ZERO;
+        for (int sign = 0; sign < 5; sign++) {
+            if (left[sign] > 0) {
+                left[sign]--;
+                BigInteger[] rest = ordersFrom(place + 1, guesses, left, known);
+                left[sign]++;
+                int hit = guesses[place] == sign ? 1 : 0;
+                for (int hits = 0; hits + hit < 26; hits++) {
+                    orders[hits + hit] = orders[hits + hit].add(rest[hits]);
+                }
+            }
+        }
+        known.put(digits(left), orders);
+        return orders;
     }
 
     // ---- BY LEFT: what is left is counted anew at each place
